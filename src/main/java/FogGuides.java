@@ -224,7 +224,7 @@ public final class FogGuides {
         if (!map.hasCorner(from) || !map.hasCorner(to) || fee < 0 || fee > MOST_FEE) return BAD;
         int bits = 0;
         for (int g = 0; g < map.guideCount; g++) {
-            if (map.isHis(g, from) && map.leadsFor(g, from, to, fee, 0, 0)) bits |= 1 << g;
+            if (map.isHis(g, from) && map.canLeadFor(g, from, to, fee)) bits |= 1 << g;
         }
         return bits;
     }
@@ -464,8 +464,12 @@ public final class FogGuides {
             return reached;
         }
 
+        boolean canLeadFor(int g, int from, int to, int fee) {
+            return leadsFor(g, from, to, fee, 0, 0);
+        }
+
         /** Whether he leads on from here to the goal, over none of the corners met, for just this fee. */
-        boolean leadsFor(int g, int here, int goal, int fee, int met, int depth) {
+        private boolean leadsFor(int g, int here, int goal, int fee, int met, int depth) {
             if (fee < 0 || depth >= MOST_CORNERS) return false;
             if (here == goal) return fee == 0;
             int metNow = met | 1 << here;
@@ -996,7 +1000,7 @@ public final class FogGuides {
             }
         }
 
-        void tryOn(int here, int left, int done, int worth, int depth) {
+        private void tryOn(int here, int left, int done, int worth, int depth) {
             if (worth > bestWorth || worth == bestWorth && done < bestSet) {
                 bestWorth = worth;
                 bestSet = done;
