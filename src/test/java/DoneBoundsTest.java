@@ -19,6 +19,7 @@ public final class DoneBoundsTest {
         aloneLate();
         waited();
         undone();
+        allCalls();
         undoneOfEachKind();
         lostWhenMoreThanTen();
         refusedIsNotUndone();
@@ -172,6 +173,12 @@ public final class DoneBoundsTest {
             .due("now 1 = 3", "undo = 0", "now 1 = 0");
     }
 
+    private static void allCalls() {
+        Script script = new Script("An object is used for at most 512 calls");
+        for (int i = 0; i < 255; i++) script.due("waits 99 = 99", "undo = 0");
+        script.due("waits 99 = 99", "now 1 = 99");
+    }
+
     private static void undoneOfEachKind() {
         new Script("all is as ahead of it").told(TOWN)
             .due("alone 0 = 1", "waits 2 = 6", "hires 0 = 6", "hires 1 = 8", "leads 1 = 2", "leaves = 1", "waits 9 = 20")
@@ -252,6 +259,13 @@ public final class DoneBoundsTest {
         script.due("keep 1 = 15", "back 0 = 0", "undo = STATE", "count 8 = 0", "waits 50 = 50", "back 1 = 15", "count 8 = 10");
         for (int i = 9; i >= 0; i--) script.due("undo = " + i, "now 1 = " + (5 + i));
         script.due("undo = STATE", "back 1 = 15", "undo = 9", "waits 80 = 94", "back 1 = 15", "undo = 9", "now 1 = 14");
+        Script other = new Script("what may be UNDONE: CORNER, MINUTE, PAID and GUIDE ahead of each").told(TOWN)
+            .due("hires 2 = 0", "hires 0 = 2", "leads 0 = 1", "hires 1 = 9", "leads 1 = 2", "leaves = 1", "keep 0 = 12");
+        for (int i = 5; i >= 0; i--) other.due("undo = " + i);
+        for (int i = 1; i <= 10; i++) other.due("waits 1 = " + i);
+        other.due("back 0 = 12", "now * = 2 12 19 NONE 0 2", "undo = 5", "now * = 2 12 19 1 2 0", "undo = 4", "now * = 1 9 10 1 2 1")
+            .due("undo = 3", "now * = 1 7 10 0 1 2", "undo = 2", "now * = 0 2 0 0 1 4", "undo = 1", "now * = 0 0 0 2 1 1")
+            .due("undo = 0", "now * = 0 0 0 NONE 1 5", "undo = STATE");
         new Script("what comes behind keep() leaves the IMAGE as it was").told(TOWN).due("hires 0 = 0", "keep 0 = 0", "leads 0 = 1")
             .due("undo = 1", "undo = 0", "alone 0 = 1", "waits 5 = 9", "back 0 = 0", "now 3 = 0", "undo = 0", "now 3 = NONE");
         new Script("back() is not UNDONE").due("waits 5 = 5", "keep 0 = 5", "waits 5 = 10", "waits 5 = 15", "back 0 = 5", "undo = 0")

@@ -22,6 +22,7 @@ public final class FeltBoundsTest {
         dayInTime();
         dayOfSeveral();
         dayByTheShortestWay();
+        dayOverEachCorner();
         dayOfAllRows();
         rateRefused();
         rates();
@@ -53,6 +54,8 @@ public final class FeltBoundsTest {
     private static void forgotten() {
         new Script("Nothing FELT, WENT: how much both were").told(ROW).due("forget = 0", "feels 1 = 1", "forget = 1", "went 0 = 1", "forget = 1")
             .due("feels 1 = 1", "went 0 = 1", "forget = 2", "count 5 = 0", "count 6 = 0", "fits * = 0 0 0 0", "falseMark = 0", "forget = 0");
+        new Script("Nothing FELT fits, whatever fitted ahead of it").told("c0;c0;s0 1 1;").due("feels 0 = 1", "fits * = 2 3 3 1", "forget = 1")
+            .due("fits * = 0 0 0 0", "feels 0 = 1", "feels 0 = 2", "fits * = 2 3 3 1", "forget = 2", "fits * = 0 0 0 0");
         Script most = new Script("Nothing FELT, WENT: how much both were").told(ROW);
         for (int i = 1; i <= 6; i++) most.due("feels 0 = " + i, "went " + i % 2 + " = " + i);
         most.due("forget = 12", "forget = 0");
@@ -190,6 +193,17 @@ public final class FeltBoundsTest {
             .due("day 0 0 3 0 = 0", "day 0 0 4 0 = 5", "day 1 0 5 0 = 0", "day 1 0 6 0 = 5", "day 2 0 6 0 = 0", "day 2 0 7 0 = 5");
         new Script("by STREETS that he KNOWS").told("c0;c0;c0;s0 1 1;s0 1 5;s1 2 1;g0 0 6 0 1 0;g0 0 2 0 1 0;").due("wishes 0 1 5 = 1", "wishes 2 1 3 = 2")
             .due("day 0 0 4 * = 0 0", "day 0 0 5 * = 5 1", "day 0 0 6 * = 5 1", "day 0 0 7 * = 8 3", "day 1 0 99 * = 5 1", "wishes 0 2 9 = 3", "day 1 0 99 * = 5 1");
+    }
+
+    private static void dayOverEachCorner() {
+        for (int hub = 0; hub < 7; hub++) {
+            StringBuilder town = new StringBuilder("c0;c0;c0;c0;c0;c0;c0;");
+            for (int c = 0; c < 7; c++) if (c != hub) town.append("s").append(hub).append(' ').append(c).append(" 1;");
+            int from = (hub + 1) % 7;
+            int to = (hub + 6) % 7;
+            new Script("by the shortest way, over each CORNER").told(town + "g0 0 31 15 31 3;").due("wishes " + from + " " + to + " 5 = 1")
+                .due("day 0 " + from + " 1 * = 0 0", "day 0 " + from + " 2 * = 5 1", "day 0 " + to + " 3 * = 0 0", "day 0 " + to + " 4 * = 5 1");
+        }
     }
 
     private static void dayOfAllRows() {

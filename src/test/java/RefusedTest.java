@@ -21,6 +21,8 @@ public final class RefusedTest {
         "feels", "went", "forget", "wishes", "grants", "keep", "back");
 
     private static final String TOWN = "c0;c1;c2;s0 1 4;s1 2 3;g1 2 1 0 3 0;g0 3 2 0 6 0;g0 0 3 0 1 0;f0 1;h2;";
+    private static final String MOST = "c0;c0;c0;c0;c0;c0;c0;s0 1 1;s1 2 1;s2 3 1;s3 4 1;s4 5 1;s5 6 1;s0 1 2;s0 1 3;s6 0 9;"
+        + "g0 0 1 0 1 0;g0 0 1 0 1 0;g0 0 1 0 1 0;g0 2 0 8 1 2;f0;";
     private static final String FILLED = "hires 0/leads 0/keep 0/waits 3/hires 1/leads 1/keep 1/leaves/waits 9/hires 1/leads 1/leaves/waits 1/"
         + "hires 0/leads 0/leaves/hires 2/feels 0/feels 1/feels 2/feels 1/feels 0/feels 1/went 0/went 1/went 2/went 1/went 0/went 1/"
         + "wishes 0 1 9/wishes 1 2 8/wishes 2 0 7/wishes 0 2 6/";
@@ -35,6 +37,7 @@ public final class RefusedTest {
         new State("no corners", "g0 1 31 15 31 3;f0;", "waits 5/feels 0/keep 0/waits 5/", "c0;", 1, 0, 0, 2, 3, 10),
         new State("begun", TOWN, "", "c3;h8;", 0, 0, 0, 0, 6, 0),
         new State("led", TOWN, "alone 0/hires 0/keep 0/hires 1/leads 1/feels 1/feels 2/went 1/wishes 0 1 5/", "c3;x", 2, 1, 1, 4, 4, 9),
+        new State("most of all", MOST, "hires 3/leads 8/leaves/waits 5/feels 0/feels 0/went 6/went 0/wishes 6 0 7/", "c3;", 2, 2, 1, 4, 3, 14),
         new State("all full", TOWN, FILLED, "c3;f0 0 1;h9;" + " ".repeat(187), 6, 6, 4, 10, 200, 31),
         new State("late with nobody", TOWN, "waits 99/".repeat(101) + "keep 1/", "c3;", 0, 0, 0, 10, 3, 9999),
         new State("late with a guide", TOWN, "hires 0/" + "waits 99/".repeat(100) + "waits 98/waits 1/", "", 0, 0, 0, 10, 0, 9999)};
@@ -151,9 +154,10 @@ public final class RefusedTest {
         List<int[]> all = arguments(method);
         for (int begin = 0; begin < all.size(); begin += BATCH) {
             Counted made = made(state);
+            long guides = made.ask("count 2");
             for (int i = begin; i < begin + BATCH && i < all.size(); i++) {
                 int[] args = all.get(i);
-                boolean counts = traced && args[0] >= 0 && args[0] <= 5 && args[1] >= 0 && args[1] <= 2;
+                boolean counts = traced && args[0] >= 0 && args[0] <= 5 && args[1] >= 0 && args[1] < guides;
                 if (!counts) made.ask(method, args);
             }
             if (!reading(made).equals(twin)) changed(state, method, all.get(begin));

@@ -29,6 +29,7 @@ public final class TownBoundsTest {
         firstFaultCounts();
         faultChangesNothing();
         readAnew();
+        nothingOfOlderTexts();
         nothingIsTold();
         Script.end();
     }
@@ -233,7 +234,7 @@ public final class TownBoundsTest {
         new Script("letters a .. z side by side").fault("cc0;", 0).fault("c0;ch0;", 3).fault("ca;", 0).fault("c c0;", 2)
             .fault("fh0;", 0).fault("c0;zc;", 3).fault("gs", 0).fault("c0c;", 2).fault("C0;", 0).fault("c0;S0 1 1;", 3);
         new Script("letters that begin no ITEM").fault("a0;", 0).fault("c0; b0;", 4).fault("z;", 0).fault("0;", 0)
-            .fault(";", 0).fault("c0;;", 3).fault("c0; 9;", 4).fault("`0;", 0).fault("{0;", 0);
+            .fault(";", 0).fault("c0;;", 3).fault("c0; 9;", 4).fault("`0;", 0).fault("{0;", 0).fault("99 0;", 0);
         new Script("each letters and what is told").fault("c;", 1).fault("c0;c;", 4).fault("c0;c0;s;", 7).fault("c0;c0;s0;", 8)
             .fault("c0;c0;s0 1;", 10).fault("c0;c0;s0 1 1 1;", 13).fault("c0;c0;s0 1 1 c", 13).fault("g;", 1)
             .fault("g0 0 0 0 0;", 10).fault("g0 0 0 0 0 0 0;", 13).fault("g0 0 0 0 0 h;", 11).fault("c0 h1;", 3);
@@ -287,6 +288,19 @@ public final class TownBoundsTest {
             .due("grants = 0", "leaves = STATE", "trace = 100001");
         new Script("Read anew, the same text: IMAGES are gone").told("c0;").due("waits 5 = 5", "keep 0 = 5", "keep 1 = 5")
             .told("c0;").due("now 1 = 0", "back 0 = STATE", "back 1 = STATE", "keep 1 = 0", "back 0 = STATE", "back 1 = 0");
+    }
+
+    /** Of no text read ahead of it anything is left, be it the latest or an older one. */
+    private static void nothingOfOlderTexts() {
+        String much = "c1;c2;c3;s0 1 1;s1 2 2;s2 0 3;g5 9 7 0 7 0;g0 1 7 0 7 0;f0;h4;";
+        for (int between = 0; between <= 2; between++) {
+            Script script = new Script("Read anew: as told").told(much);
+            for (int i = 0; i < between; i++) script.told("c0;");
+            script.told("c0;c0;f0;").due("count * = 2 0 0 1 1 0 0 0 0 0", "now * = 0 0 0 NONE 0 0", "byBells 0 0 1 = NONE", "soonest 0 1 0 = NONE")
+                .due("byOne 0 1 = 0", "forFee 0 1 1 = 0", "feels 0 = 1", "fits * = 2 3 3 0", "went 0 = 1", "went 1 = STATE", "corner * = 0 0 BAD")
+                .due("street 0 0 = BAD", "guide 0 0 = BAD", "alone 0 = BAD", "hires 0 = BAD", "rate 0 0 = NO", "day 0 0 9 0 = BAD")
+                .told("c0;c0;s0 1 9;g0 0 0 0 1 0;").due("street 0 * = 0 1 9", "guide 0 * = 0 0 0 1", "fog 0 = 1", "count 3 = 1", "count 4 = 0");
+        }
     }
 
     private static void nothingIsTold() {

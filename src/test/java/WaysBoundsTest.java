@@ -11,6 +11,7 @@ public final class WaysBoundsTest {
             routesChangeNothing(call);
             routesHandedOver(call);
             routesAtTheirLongest(call);
+            routesInTheFullestTown(call);
         }
         soonestOfAsMany();
         cheapestOfAsMuch();
@@ -80,6 +81,16 @@ public final class WaysBoundsTest {
             .due(call + " 0 6 * = 129 756 0", call + " 6 0 * = 129 756 1", call + " 0 5 * = 106 630 0");
         new Script(call + " of four handed over").told(CHAIN + "g0 1 1 0 3 0;g0 1 2 0 7 0;g0 1 4 0 15 0;g0 1 24 1 9 0;h2;")
             .due(call + " 0 6 * = 60 54 0", call + " 1 6 * = 49 45 1", call + " 3 6 * = 27 27 3");
+    }
+
+    /** Seven CORNERS, nine STREETS, four GUIDES: each way from, to and over the last of them. */
+    private static void routesInTheFullestTown(String call) {
+        String streets = "s0 1 1;s1 2 1;s2 3 1;s3 4 1;s4 5 1;s5 6 1;s0 1 2;s0 1 3;s6 0 9;";
+        new Script(call + " where there are most of all").told("c0;c0;c0;c0;c0;c0;c0;" + streets + "g0 0 0 0 0 0;g0 0 0 0 0 0;g0 0 0 0 0 0;g0 2 0 8 0 2;f0;")
+            .due(call + " 6 0 * = 9 18 3", call + " 0 6 * = NONE NONE NONE", call + " 6 5 * = NONE NONE NONE", call + " 6 6 * = 0 0 NONE")
+            .due("byOne 6 0 = 8", "byOne 6 5 = 0", "forFee 6 0 18 = 8", "forFee 6 0 17 = 0", "taught 3 * = 0 3", "byBells 6 0 0 = 6", "byBells 5 0 6 = 1")
+            .due("byBells 6 0 1 = 5", "hires 3 = STATE", "alone 8 = 6", "hires 3 = 9", "now * = 6 9 0 3 256 0", "leads 8 = 0", "day 3 6 9 0 = 0")
+            .due("wishes 6 0 7 = 1", "day 3 6 8 * = 0 0", "day 3 6 9 * = 7 1", "rate 2 3 = 1", "rate 4 3 = 2", "fits 0 = 0", "feels 0 = 1", "fits * = 7 127 127 1");
     }
 
     private static void soonestOfAsMany() {
