@@ -204,7 +204,8 @@ public final class TownBoundsTest {
             .told("f0 1;").due("count 4 = 2").told("f0;").due("count 4 = 1");
         new Script("hand; once at most").fault("h1;h1;", 3).fault("h0;h", 3).fault("h0;c0; h0;", 7).due("count 3 = 1")
             .told("h2;").due("count 3 = 2").told("h3;").due("count 3 = 3");
-        new Script("once at most").told("h0;f0;").fault("f1;h1;h1;", 6).fault("h1;f1;f1;", 6).due("count 3 = 0", "fog 0 = 0");
+        new Script("once at most").told("h0;f0;").fault("f1;h1;h1;", 6).fault("h1;f1;f1;", 6)
+            .due("count 3 = 0", "fog 0 = 0");
     }
 
     private static void blanks() {
@@ -235,7 +236,8 @@ public final class TownBoundsTest {
             .fault("fh0;", 0).fault("c0;zc;", 3).fault("gs", 0).fault("c0c;", 2).fault("C0;", 0).fault("c0;S0 1 1;", 3);
         new Script("letters that begin no ITEM").fault("a0;", 0).fault("c0; b0;", 4).fault("z;", 0).fault("0;", 0)
             .fault(";", 0).fault("c0;;", 3).fault("c0; 9;", 4).fault("`0;", 0).fault("{0;", 0).fault("99 0;", 0);
-        new Script("each letters and what is told").fault("c;", 1).fault("c0;c;", 4).fault("c0;c0;s;", 7).fault("c0;c0;s0;", 8)
+        new Script("each letters and what is told").fault("c;", 1).fault("c0;c;", 4).fault("c0;c0;s;", 7)
+            .fault("c0;c0;s0;", 8)
             .fault("c0;c0;s0 1;", 10).fault("c0;c0;s0 1 1 1;", 13).fault("c0;c0;s0 1 1 c", 13).fault("g;", 1)
             .fault("g0 0 0 0 0;", 10).fault("g0 0 0 0 0 0 0;", 13).fault("g0 0 0 0 0 h;", 11).fault("c0 h1;", 3);
     }
@@ -296,10 +298,14 @@ public final class TownBoundsTest {
         for (int between = 0; between <= 2; between++) {
             Script script = new Script("Read anew: as told").told(much);
             for (int i = 0; i < between; i++) script.told("c0;");
-            script.told("c0;c0;f0;").due("count * = 2 0 0 1 1 0 0 0 0 0", "now * = 0 0 0 NONE 0 0", "byBells 0 0 1 = NONE", "soonest 0 1 0 = NONE")
-                .due("byOne 0 1 = 0", "forFee 0 1 1 = 0", "feels 0 = 1", "fits * = 2 3 3 0", "went 0 = 1", "went 1 = STATE", "corner * = 0 0 BAD")
-                .due("street 0 0 = BAD", "guide 0 0 = BAD", "alone 0 = BAD", "hires 0 = BAD", "rate 0 0 = NO", "day 0 0 9 0 = BAD")
-                .told("c0;c0;s0 1 9;g0 0 0 0 1 0;").due("street 0 * = 0 1 9", "guide 0 * = 0 0 0 1", "fog 0 = 1", "count 3 = 1", "count 4 = 0");
+            script.told("c0;c0;f0;").due("count * = 2 0 0 1 1 0 0 0 0 0", "now * = 0 0 0 NONE 0 0", "byBells 0 0 1 = NONE")
+                .due("soonest 0 1 0 = NONE")
+                .due("byOne 0 1 = 0", "forFee 0 1 1 = 0", "feels 0 = 1", "fits * = 2 3 3 0", "went 0 = 1", "went 1 = STATE")
+                .due("corner * = 0 0 BAD")
+                .due("street 0 0 = BAD", "guide 0 0 = BAD", "alone 0 = BAD", "hires 0 = BAD", "rate 0 0 = NO")
+                .due("day 0 0 9 0 = BAD")
+                .told("c0;c0;s0 1 9;g0 0 0 0 1 0;").due("street 0 * = 0 1 9", "guide 0 * = 0 0 0 1", "fog 0 = 1")
+                .due("count 3 = 1", "count 4 = 0");
         }
     }
 
