@@ -66,6 +66,12 @@ public final class TownBoundsTest {
             .typed(" ".repeat(200)).due("type 32 = FULL", "clear = 200", "count 9 = 0", "type 32 = 1");
         new Script("THE TEXT is empty: how many bytes it had").told(SEVEN + "h3;").typed("c0").due("clear = 2")
             .due("count 0 = 7", "count 3 = 3", "town = 0", "count 0 = 0");
+        new Script("bytes that were cleared, or read, tell nothing").fault("c0;cc", 3).fault("c0;c", 4).fault("c0;c12", 4)
+            .fault("c0;c1", 5).fault("c0;c1;c0;c0;h1;h", 15).told("c0;c1;").fault("c0;c0;f", 7)
+            .told("c0;").due("count 0 = 1");
+        new Script("a text (200 bytes at most)").fault(" ".repeat(199) + "c", 200);
+        new Script("a text (200 bytes at most)").fault("c" + " ".repeat(198) + "0", 200);
+        new Script("a text (200 bytes at most)").fault("c0;" + " ".repeat(196) + "z", 199);
     }
 
     private static void corners() {
